@@ -618,10 +618,7 @@ public final class Turnpike {
 
         void playTick(boolean hasQueue) {
             ticks++;
-            if (!isOn()) {
-                phase = 0;
-                ticks = 1;
-            } else if (ticks > greatest[phase] || ticks > least[phase] && !hasQueue) {
+            if (!isOn() || ticks > greatest[phase] || ticks > least[phase] && !hasQueue) {
                 phase = phase + 1 < phases ? phase + 1 : 0;
                 ticks = 1;
             }
@@ -880,10 +877,11 @@ public final class Turnpike {
             for (int round = 0; isBetter && round < MOST_NODES; round++) {
                 isBetter = false;
                 for (int i = 0; i < links; i++) {
-                    int from = link[i].from;
-                    int sum = costOver(link[i], cost);
-                    if (sum != NONE && (cost[from] == NONE || sum < cost[from])) {
-                        cost[from] = sum;
+                    Link over = link[i];
+                    int rest = cost[over.to];
+                    int known = cost[over.from];
+                    if (!over.shut && rest != NONE && (known == NONE || over.cost + rest < known)) {
+                        cost[over.from] = over.cost + rest;
                         isBetter = true;
                     }
                 }
@@ -902,19 +900,15 @@ public final class Turnpike {
             return cost;
         }
 
-        /** What the rest of the way costs over a link, NONE if it leads nowhere. */
-        private static int costOver(Link link, int[] cost) {
-            int rest = cost[link.to];
-            return link.shut || rest == NONE ? NONE : link.cost + rest;
-        }
-
         int firstOfWay(int from, int to) {
             int[] cost = costsTo(to);
             if (from == to || cost[from] == NONE) {
                 return NONE;
             }
             for (int i = 0; i < links; i++) {
-                if (link[i].from == from && costOver(link[i], cost) == cost[from]) {
+                Link over = link[i];
+                int rest = cost[over.to];
+                if (over.from == from && !over.shut && rest != NONE && over.cost + rest == cost[from]) {
                     return i;
                 }
             }

@@ -68,32 +68,33 @@ public final class LimitsTest {
             t.addNode();
         }
         for (int i = 0; i < 3; i++) {
+            t.addLink(i, 3, 1, 1, 1);
+        }
+        for (int i = 0; i < 15; i++) {
+            t.addLink(3, 0, 1, 1, 1);
+        }
+        for (int i = 0; i < 3; i++) {
             t.addLink(i, (i + 1) % 3, 1, 1, 1);
         }
-        t.addLink(0, 3, 1, 1, 1);
-        t.addLink(1, 3, 1, 1, 1);
-        t.addLink(2, 3, 1, 1, 1);
-        t.shut(3, true);
-        t.shut(4, true);
+        t.shut(0, true);
+        t.shut(1, true);
         t.addFlow(0, 3, 1, 0, 1, 1);
-        int calls = 14;
-        int open = 5;
-        int over = 0;
-        while (calls < CALLS - 90) {
-            // It is on its way to the open link; ahead of that it is shut, and one behind opens.
-            int next = open == 3 ? 5 : open - 1;
+        int open = 2;
+        for (int calls = 28; calls < CALLS - 3; calls += 3) {
+            // It goes two links; then the open link is shut, and the one behind it opens.
+            int next = (open + 2) % 3;
             t.step(2);
-            over = t.linksOf(0);
             t.shut(open, true);
             t.shut(next, false);
             open = next;
-            calls += 4;
         }
-        checks.due("linksOf(0) is long: " + over, true, over > 150);
+        int over = t.linksOf(0);
+        checks.due("linksOf(0) is long: " + over, true, over > 300);
         for (int place = 0; place < over; place++) {
-            checks.due("linkAt(0, " + place + ")", place % 3, t.linkAt(0, place));
+            checks.due("linkAt(0, " + place + ")", 18 + place % 3, t.linkAt(0, place));
         }
-        t.step(60);
+        checks.noIndex("linkAt() behind the last one", t, () -> t.linkAt(0, over));
+        t.step(4);
         checks.due("stateOf(0) in the end", 2, t.stateOf(0));
     }
 

@@ -24,6 +24,8 @@ public final class TermsTest {
         test.newLinksAreRedAtASignal();
         test.signalDoesNotHoldThoseThatWait();
         test.refreshKeepsCosts();
+        test.longestWay();
+        test.signalAtTheFirstNode();
         test.checks.end();
     }
 
@@ -326,5 +328,42 @@ public final class TermsTest {
         }
         checks.due("linkOf(4)", 1, t.linkOf(4));
         checks.due("costOf(0)", 5, t.costOf(0));
+    }
+
+    /** Eleven links over twelve nodes, the last node first, with the greatest numbers of links. */
+    private void longestWay() {
+        for (int kind = SET; kind <= HEEDING; kind++) {
+            Turnpike t = withNodes(12);
+            for (int i = 0; i < 13; i++) {
+                t.addLink(0, 11, 1, 1, 1);
+            }
+            for (int i = 0; i < 11; i++) {
+                t.addLink(11 - i, 10 - i, 1 + i, 1, 1);
+            }
+            t.addFlow(11, 0, kind, 0, 1, 1);
+            t.step(60);
+            checks.due("arrivesIn(0, 7) in tick 66", 7, t.arrivesIn(0, 7));
+            t.step(10);
+            checks.due("tripOf(0)", 66, t.tripOf(0));
+            checks.due("delayOf(0)", 0, t.delayOf(0));
+            checks.due("linksOf(0)", 11, t.linksOf(0));
+            for (int place = 0; place < 11; place++) {
+                checks.due("linkAt(0, " + place + ")", 13 + place, t.linkAt(0, place));
+            }
+        }
+    }
+
+    private void signalAtTheFirstNode() {
+        Turnpike t = withNodes(2);
+        t.addLink(1, 0, 1, 9, 1);
+        t.addPhase(0, 0, 3, 3);
+        t.addPhase(0, 1, 3, 3);
+        t.addFlow(1, 0, SET, 0, 1, 1);
+        t.step(3);
+        checks.due("phaseOf(0)", 0, t.phaseOf(0));
+        checks.due("stateOf(0) at red", 1, t.stateOf(0));
+        t.step(1);
+        checks.due("phaseOf(0)", 1, t.phaseOf(0));
+        checks.due("tripOf(0)", 3, t.tripOf(0));
     }
 }
