@@ -17,16 +17,8 @@ public final class AskingTest {
         test.checks.end();
     }
 
-    private static Turnpike withNodes(int nodes) {
-        Turnpike t = new Turnpike();
-        for (int i = 0; i < nodes; i++) {
-            t.addNode();
-        }
-        return t;
-    }
-
     private void promises11To14() {
-        Turnpike t = withNodes(3);
+        Turnpike t = Checks.withNodes(3);
         checks.due("nodes()", 3, t.nodes());
         t.addLink(0, 1, 1, 1, 1);
         t.addLink(1, 0, 1, 1, 1);
@@ -40,7 +32,7 @@ public final class AskingTest {
     }
 
     private void promises15To17() {
-        Turnpike t = withNodes(2);
+        Turnpike t = Checks.withNodes(2);
         t.addLink(0, 1, 4, 9, 2);
         t.addLink(1, 0, 5, 9, 3);
         t.shut(1, true);
@@ -73,7 +65,7 @@ public final class AskingTest {
 
     /** 5 queued at a rate of 2 cost 3 more, 4 cost 2 more. */
     private void costIsMadeUp() {
-        Turnpike t = withNodes(2);
+        Turnpike t = Checks.withNodes(2);
         t.addLink(0, 1, 1, 9, 2);
         t.addPhase(1, 0, 40, 40);
         t.addFlow(0, 1, 0, 0, 1, 5);
@@ -87,7 +79,7 @@ public final class AskingTest {
     }
 
     private void promises18And19() {
-        Turnpike t = withNodes(3);
+        Turnpike t = Checks.withNodes(3);
         t.addLink(0, 1, 1, 9, 1);
         t.addLink(2, 1, 1, 9, 1);
         t.addPhase(1, 1, 2, 4);
@@ -129,7 +121,7 @@ public final class AskingTest {
 
     /** Behind the last phase the first one is on, for its first tick, also if it is the same. */
     private void onePhase() {
-        Turnpike t = withNodes(2);
+        Turnpike t = Checks.withNodes(2);
         t.addPhase(1, 0, 3, 9);
         t.step(3);
         phaseIs(t, 0, 3);
@@ -138,7 +130,7 @@ public final class AskingTest {
     }
 
     private void promise20() {
-        Turnpike t = withNodes(4);
+        Turnpike t = Checks.withNodes(4);
         t.addLink(0, 1, 5, 9, 1);
         t.addLink(0, 2, 1, 9, 1);
         t.addLink(2, 1, 1, 9, 1);
@@ -166,7 +158,7 @@ public final class AskingTest {
     }
 
     private void promise21() {
-        Turnpike t = withNodes(5);
+        Turnpike t = Checks.withNodes(5);
         t.addLink(3, 1, 2, 9, 1);
         t.addLink(0, 2, 1, 9, 1);
         t.addLink(0, 3, 1, 9, 1);
@@ -190,7 +182,7 @@ public final class AskingTest {
     }
 
     private void promises22And23() {
-        Turnpike t = withNodes(3);
+        Turnpike t = Checks.withNodes(3);
         t.addLink(0, 1, 2, 1, 1);
         t.addFlow(0, 1, 0, 0, 1, 2);
         t.addFlow(0, 2, 0, 1, 1, 1);
@@ -213,7 +205,7 @@ public final class AskingTest {
     }
 
     private void atMost200() {
-        Turnpike t = withNodes(3);
+        Turnpike t = Checks.withNodes(3);
         t.addLink(0, 1, 1, 30, 3);
         t.addFlow(1, 0, 0, 0, 1, 40);
         for (int i = 0; i < 5; i++) {
@@ -231,7 +223,7 @@ public final class AskingTest {
     }
 
     private void promises24To27() {
-        Turnpike t = withNodes(4);
+        Turnpike t = Checks.withNodes(4);
         t.addLink(0, 1, 2, 9, 1);
         t.addLink(1, 2, 3, 9, 1);
         t.addFlow(0, 2, 1, 0, 1, 1);
@@ -270,7 +262,7 @@ public final class AskingTest {
     }
 
     private void setVehiclesHaveNotGoneTheirWayYet() {
-        Turnpike t = withNodes(3);
+        Turnpike t = Checks.withNodes(3);
         t.addLink(0, 1, 2, 1, 1);
         t.addLink(1, 2, 3, 9, 1);
         t.addFlow(0, 2, 0, 0, 1, 2);
@@ -282,7 +274,7 @@ public final class AskingTest {
     }
 
     private void promises28And29() {
-        Turnpike t = withNodes(3);
+        Turnpike t = Checks.withNodes(3);
         t.addLink(0, 1, 2, 9, 1);
         t.addLink(1, 2, 3, 9, 1);
         t.addPhase(2, 0, 7, 7);
@@ -307,7 +299,7 @@ public final class AskingTest {
     }
 
     private void promise30() {
-        Turnpike t = withNodes(3);
+        Turnpike t = Checks.withNodes(3);
         t.addLink(0, 1, 4, 9, 1);
         t.addFlow(0, 1, 0, 0, 30, 1);
         t.addFlow(0, 1, 1, 0, 30, 1);
@@ -329,7 +321,7 @@ public final class AskingTest {
     }
 
     private void promises31To33() {
-        Turnpike t = withNodes(3);
+        Turnpike t = Checks.withNodes(3);
         t.addLink(0, 1, 3, 9, 1);
         t.addLink(1, 2, 1, 2, 2);
         t.addPhase(2, 0, 40, 40);

@@ -8,6 +8,14 @@ final class Checks {
         this.name = name;
     }
 
+    static Turnpike withNodes(int nodes) {
+        Turnpike t = new Turnpike();
+        for (int i = 0; i < nodes; i++) {
+            t.addNode();
+        }
+        return t;
+    }
+
     void due(String call, long want, long got) {
         asked++;
         if (got != want) {

@@ -17,16 +17,8 @@ public final class CountsTest {
         test.checks.end();
     }
 
-    private static Turnpike withNodes(int nodes) {
-        Turnpike t = new Turnpike();
-        for (int i = 0; i < nodes; i++) {
-            t.addNode();
-        }
-        return t;
-    }
-
     private void promise34() {
-        Turnpike t = withNodes(2);
+        Turnpike t = Checks.withNodes(2);
         t.addLink(0, 1, 1, 9, 1);
         t.addPhase(1, 0, 4, 4);
         t.addPhase(1, 1, 40, 40);
@@ -56,7 +48,7 @@ public final class CountsTest {
     }
 
     private void promise35() {
-        Turnpike t = withNodes(4);
+        Turnpike t = Checks.withNodes(4);
         t.addLink(0, 1, 1, 9, 3);
         t.addLink(1, 2, 1, 9, 3);
         t.addLink(1, 3, 1, 9, 3);
@@ -79,7 +71,7 @@ public final class CountsTest {
     }
 
     private void promise36() {
-        Turnpike t = withNodes(3);
+        Turnpike t = Checks.withNodes(3);
         t.addLink(0, 1, 2, 1, 1);
         t.addFlow(0, 1, 0, 0, 1, 3);
         t.addFlow(0, 2, 0, 0, 5, 3);
@@ -107,7 +99,7 @@ public final class CountsTest {
     }
 
     private void promise37() {
-        Turnpike t = withNodes(3);
+        Turnpike t = Checks.withNodes(3);
         t.addLink(0, 1, 2, 1, 1);
         checks.dueDouble("meanTrip() without any", 0, t.meanTrip());
         t.addFlow(0, 1, 0, 0, 1, 3);
@@ -126,7 +118,7 @@ public final class CountsTest {
     }
 
     private void promise38() {
-        Turnpike t = withNodes(3);
+        Turnpike t = Checks.withNodes(3);
         t.addLink(0, 1, 3, 9, 1);
         t.addLink(1, 2, 4, 9, 1);
         t.addFlow(0, 2, 1, 0, 1, 2);
@@ -149,7 +141,7 @@ public final class CountsTest {
     }
 
     private void promise38Edges() {
-        Turnpike t = withNodes(3);
+        Turnpike t = Checks.withNodes(3);
         t.addLink(0, 1, 1, 9, 1);
         checks.noIndex("arrivesIn(0, 1) ahead of all", t, () -> t.arrivesIn(0, 1));
         t.addFlow(0, 2, 0, 0, 1, 1);
@@ -172,7 +164,7 @@ public final class CountsTest {
     }
 
     private void promise39() {
-        Turnpike t = withNodes(3);
+        Turnpike t = Checks.withNodes(3);
         t.addLink(0, 1, 3, 9, 1);
         checks.due("emptyIn(1) of nothing", 0, t.emptyIn(1));
         t.addFlow(0, 1, 0, 0, 6, 2);
@@ -201,7 +193,7 @@ public final class CountsTest {
     }
 
     private void promise40() {
-        Turnpike t = withNodes(4);
+        Turnpike t = Checks.withNodes(4);
         t.addLink(0, 1, 1, 9, 1);
         t.addLink(1, 2, 1, 9, 1);
         t.addLink(0, 2, 7, 9, 1);
@@ -243,7 +235,7 @@ public final class CountsTest {
     }
 
     private void promise41OfAFullOne() {
-        Turnpike t = withNodes(2);
+        Turnpike t = Checks.withNodes(2);
         t.addLink(0, 1, 2, 9, 3);
         t.addLink(1, 0, 1, 9, 1);
         t.shut(1, true);

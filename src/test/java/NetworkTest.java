@@ -21,14 +21,6 @@ public final class NetworkTest {
         test.checks.end();
     }
 
-    private static Turnpike withNodes(int nodes) {
-        Turnpike t = new Turnpike();
-        for (int i = 0; i < nodes; i++) {
-            t.addNode();
-        }
-        return t;
-    }
-
     private void promise1() {
         Turnpike t = new Turnpike();
         checks.due("clock() of a new object", 0, t.clock());
@@ -38,7 +30,7 @@ public final class NetworkTest {
         checks.due("vehicles() of a new object", 0, t.vehicles());
         checks.due("setRefresh() of a new object", 1, t.setRefresh(1));
         checks.due("step(60) without nodes", 60, t.step(60));
-        Turnpike other = withNodes(2);
+        Turnpike other = Checks.withNodes(2);
         checks.due("another object has its own nodes", 0, new Turnpike().nodes());
         checks.due("nodes()", 2, other.nodes());
     }
@@ -57,7 +49,7 @@ public final class NetworkTest {
     }
 
     private void promise3() {
-        Turnpike t = withNodes(3);
+        Turnpike t = Checks.withNodes(3);
         checks.due("addLink()", 0, t.addLink(0, 1, 20, 30, 3));
         checks.due("addLink()", 1, t.addLink(1, 0, 1, 1, 1));
         checks.due("addLink() once more between the same", 2, t.addLink(1, 0, 4, 2, 2));
@@ -78,7 +70,7 @@ public final class NetworkTest {
     }
 
     private void promise3Edges() {
-        Turnpike t = withNodes(2);
+        Turnpike t = Checks.withNodes(2);
         checks.noIndex("addLink from -1", t, () -> t.addLink(-1, 1, 1, 1, 1));
         checks.noIndex("addLink from 2", t, () -> t.addLink(2, 1, 1, 1, 1));
         checks.noIndex("addLink to -1", t, () -> t.addLink(0, -1, 1, 1, 1));
@@ -101,7 +93,7 @@ public final class NetworkTest {
     }
 
     private void promise4() {
-        Turnpike t = withNodes(3);
+        Turnpike t = Checks.withNodes(3);
         t.addLink(0, 1, 1, 9, 1);
         t.addLink(2, 1, 1, 9, 1);
         t.addLink(1, 0, 1, 9, 1);
@@ -116,7 +108,7 @@ public final class NetworkTest {
     }
 
     private void promise4Edges() {
-        Turnpike t = withNodes(3);
+        Turnpike t = Checks.withNodes(3);
         t.addLink(0, 1, 1, 9, 1);
         t.addLink(1, 0, 1, 9, 1);
         checks.noIndex("addPhase at -1", t, () -> t.addPhase(-1, 1, 1, 1));
@@ -139,7 +131,7 @@ public final class NetworkTest {
     }
 
     private void promise5() {
-        Turnpike t = withNodes(2);
+        Turnpike t = Checks.withNodes(2);
         t.addLink(0, 1, 1, 9, 1);
         checks.due("dropSignal() without one", 0, t.dropSignal(1));
         t.addPhase(1, 0, 40, 40);
@@ -162,7 +154,7 @@ public final class NetworkTest {
     }
 
     private void promise6() {
-        Turnpike t = withNodes(2);
+        Turnpike t = Checks.withNodes(2);
         t.addLink(0, 1, 1, 9, 1);
         t.addPhase(1, 0, 40, 40);
         t.addFlow(0, 1, 0, 0, 1, 40);
@@ -189,7 +181,7 @@ public final class NetworkTest {
     }
 
     private void promise7() {
-        Turnpike t = withNodes(3);
+        Turnpike t = Checks.withNodes(3);
         t.addLink(0, 1, 1, 9, 1);
         t.addLink(1, 2, 3, 9, 1);
         t.addFlow(0, 2, 0, 0, 5, 2);
@@ -208,7 +200,7 @@ public final class NetworkTest {
     }
 
     private void promise8() {
-        Turnpike t = withNodes(2);
+        Turnpike t = Checks.withNodes(2);
         t.addLink(0, 1, 1, 9, 2);
         checks.due("slow()", 2, t.slow(0, 0, 1));
         checks.due("rateOf()", 0, t.rateOf(0));
@@ -234,7 +226,7 @@ public final class NetworkTest {
     }
 
     private void promise8Edges() {
-        Turnpike t = withNodes(2);
+        Turnpike t = Checks.withNodes(2);
         t.addLink(0, 1, 1, 9, 2);
         checks.noIndex("slow(-1)", t, () -> t.slow(-1, 1, 1));
         checks.noIndex("slow(1), all else wrong", t, () -> t.slow(1, 4, 0));
@@ -244,7 +236,7 @@ public final class NetworkTest {
         checks.noArgument("slow for 201 ticks", t, () -> t.slow(0, 1, 201));
         checks.due("rateOf() behind what was refused", 2, t.rateOf(0));
         // A rate of 3 for one tick: three go at once in it, one in the tick behind it.
-        Turnpike u = withNodes(2);
+        Turnpike u = Checks.withNodes(2);
         u.addLink(0, 1, 1, 9, 1);
         u.addPhase(1, 0, 40, 40);
         u.addFlow(0, 1, 0, 0, 1, 6);
@@ -263,7 +255,7 @@ public final class NetworkTest {
     }
 
     private void promise9() {
-        Turnpike t = withNodes(3);
+        Turnpike t = Checks.withNodes(3);
         t.addLink(0, 1, 1, 9, 3);
         t.step(4);
         checks.due("addFlow()", 0, t.addFlow(0, 1, 0, 4, 3, 2));
@@ -291,7 +283,7 @@ public final class NetworkTest {
     }
 
     private void promise9Edges() {
-        Turnpike t = withNodes(2);
+        Turnpike t = Checks.withNodes(2);
         t.step(7);
         checks.noIndex("addFlow from -1", t, () -> t.addFlow(-1, 1, 0, 7, 1, 1));
         checks.noIndex("addFlow from 2", t, () -> t.addFlow(2, 1, 0, 7, 1, 1));

@@ -29,17 +29,9 @@ public final class TermsTest {
         test.checks.end();
     }
 
-    private static Turnpike withNodes(int nodes) {
-        Turnpike t = new Turnpike();
-        for (int i = 0; i < nodes; i++) {
-            t.addNode();
-        }
-        return t;
-    }
-
     /** Two links lead to one that has room for one: in tick 1 the link 1 is first. */
     private void linksTakeTurnsAtBeingFirst() {
-        Turnpike t = withNodes(4);
+        Turnpike t = Checks.withNodes(4);
         t.addLink(0, 2, 1, 9, 1);
         t.addLink(1, 2, 1, 9, 1);
         t.addLink(2, 3, 1, 1, 1);
@@ -56,14 +48,14 @@ public final class TermsTest {
         checks.due("tripOf(0)", 3, t.tripOf(0));
         checks.due("tripOf(1)", 2, t.tripOf(1));
         // In tick 6 the link 0 is first, and finds no room yet; the link 2 makes it behind it.
-        Turnpike u = withNodes(3);
+        Turnpike u = Checks.withNodes(3);
         u.addLink(0, 1, 1, 9, 1);
         u.addLink(1, 2, 1, 1, 1);
         u.addFlow(0, 2, SET, 3, 1, 2);
         u.step(6);
         checks.due("linkOf(0) in tick 5", -1, u.linkOf(0));
         checks.due("linkOf(1) in tick 5", 1, u.linkOf(1));
-        Turnpike w = withNodes(3);
+        Turnpike w = Checks.withNodes(3);
         w.addLink(0, 1, 1, 9, 1);
         w.addLink(1, 2, 1, 1, 1);
         w.addFlow(0, 2, SET, 4, 1, 2);
@@ -75,7 +67,7 @@ public final class TermsTest {
     }
 
     private void firstRateIsBackAheadOfCosts() {
-        Turnpike t = withNodes(2);
+        Turnpike t = Checks.withNodes(2);
         t.addLink(0, 1, 1, 9, 2);
         t.addPhase(1, 0, 40, 40);
         t.addFlow(0, 1, SET, 0, 1, 3);
@@ -88,7 +80,7 @@ public final class TermsTest {
     }
 
     private void costsAreReckonedAheadOfThoseThatCome() {
-        Turnpike t = withNodes(2);
+        Turnpike t = Checks.withNodes(2);
         t.addLink(0, 1, 1, 9, 1);
         t.addLink(0, 1, 2, 9, 1);
         t.addPhase(1, 0, 40, 40);
@@ -103,7 +95,7 @@ public final class TermsTest {
     }
 
     private void flowsBringInTheirOrder() {
-        Turnpike t = withNodes(2);
+        Turnpike t = Checks.withNodes(2);
         t.addLink(0, 1, 5, 9, 1);
         t.addFlow(0, 1, SET, 0, 2, 3);
         t.addFlow(0, 1, HEEDING, 0, 1, 3);
@@ -116,7 +108,7 @@ public final class TermsTest {
     }
 
     private void signalsAreAheadOfDriving() {
-        Turnpike t = withNodes(2);
+        Turnpike t = Checks.withNodes(2);
         t.addLink(0, 1, 1, 9, 1);
         t.addPhase(1, 0, 2, 2);
         t.addPhase(1, 1, 1, 1);
@@ -134,7 +126,7 @@ public final class TermsTest {
 
     /** The queue counts as it is ahead of (e), also if it is gone behind it. */
     private void queueKeepsAPhaseOn() {
-        Turnpike t = withNodes(2);
+        Turnpike t = Checks.withNodes(2);
         t.addLink(0, 1, 1, 9, 1);
         t.addPhase(1, 1, 1, 5);
         t.addPhase(1, 0, 9, 9);
@@ -149,7 +141,7 @@ public final class TermsTest {
     }
 
     private void linksAreAheadOfWaiting() {
-        Turnpike t = withNodes(3);
+        Turnpike t = Checks.withNodes(3);
         t.addLink(0, 1, 1, 9, 1);
         t.addLink(1, 2, 1, 1, 1);
         t.addFlow(0, 2, SET, 0, 1, 1);
@@ -164,7 +156,7 @@ public final class TermsTest {
     }
 
     private void onlyOneWaitingGoesInATick() {
-        Turnpike t = withNodes(3);
+        Turnpike t = Checks.withNodes(3);
         t.addLink(0, 1, 5, 9, 3);
         t.addLink(0, 2, 5, 9, 3);
         t.addFlow(0, 1, SET, 0, 1, 1);
@@ -181,7 +173,7 @@ public final class TermsTest {
 
     private void rateIsForATick() {
         for (int rate = 1; rate <= 3; rate++) {
-            Turnpike t = withNodes(2);
+            Turnpike t = Checks.withNodes(2);
             t.addLink(0, 1, 1, 9, rate);
             t.addPhase(1, 0, 9, 9);
             t.addPhase(1, 1, 40, 40);
@@ -197,7 +189,7 @@ public final class TermsTest {
 
     /** The first one is to go onto a full link; the next one, which is at its node, cannot pass. */
     private void firstVehicleKeepsBackTheNext() {
-        Turnpike t = withNodes(3);
+        Turnpike t = Checks.withNodes(3);
         t.addLink(0, 1, 1, 9, 3);
         t.addLink(1, 2, 1, 1, 1);
         t.addPhase(2, 0, 40, 40);
@@ -217,7 +209,7 @@ public final class TermsTest {
     }
 
     private static Turnpike withTwoWays(int kind) {
-        Turnpike t = withNodes(3);
+        Turnpike t = Checks.withNodes(3);
         t.addLink(0, 1, 5, 9, 1);
         t.addLink(1, 2, 1, 9, 1);
         t.addLink(1, 2, 3, 9, 1);
@@ -248,7 +240,7 @@ public final class TermsTest {
 
     /** Where it goes next is to be chosen whenever it could go on, and may lead back. */
     private void heedingVehiclesGoBack() {
-        Turnpike t = withNodes(3);
+        Turnpike t = Checks.withNodes(3);
         t.addLink(0, 1, 1, 9, 1);
         t.addLink(1, 0, 1, 9, 1);
         t.addLink(1, 2, 1, 9, 1);
@@ -290,7 +282,7 @@ public final class TermsTest {
     }
 
     private void newLinksAreRedAtASignal() {
-        Turnpike t = withNodes(2);
+        Turnpike t = Checks.withNodes(2);
         t.addLink(0, 1, 2, 9, 1);
         t.addPhase(1, 1, 1, 40);
         t.addLink(0, 1, 1, 9, 1);
@@ -304,7 +296,7 @@ public final class TermsTest {
     }
 
     private void signalDoesNotHoldThoseThatWait() {
-        Turnpike t = withNodes(3);
+        Turnpike t = Checks.withNodes(3);
         t.addLink(0, 1, 1, 9, 1);
         t.addLink(1, 2, 1, 9, 1);
         t.addPhase(1, 0, 40, 40);
@@ -314,7 +306,7 @@ public final class TermsTest {
     }
 
     private void refreshKeepsCosts() {
-        Turnpike t = withNodes(2);
+        Turnpike t = Checks.withNodes(2);
         t.addLink(0, 1, 1, 9, 1);
         t.addLink(0, 1, 2, 9, 1);
         t.addPhase(1, 0, 40, 40);
@@ -333,7 +325,7 @@ public final class TermsTest {
     /** Eleven links over twelve nodes, the last node first, with the greatest numbers of links. */
     private void longestWay() {
         for (int kind = SET; kind <= HEEDING; kind++) {
-            Turnpike t = withNodes(12);
+            Turnpike t = Checks.withNodes(12);
             for (int i = 0; i < 13; i++) {
                 t.addLink(0, 11, 1, 1, 1);
             }
@@ -354,7 +346,7 @@ public final class TermsTest {
     }
 
     private void signalAtTheFirstNode() {
-        Turnpike t = withNodes(2);
+        Turnpike t = Checks.withNodes(2);
         t.addLink(1, 0, 1, 9, 1);
         t.addPhase(0, 0, 3, 3);
         t.addPhase(0, 1, 3, 3);
