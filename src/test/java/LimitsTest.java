@@ -61,7 +61,7 @@ public final class LimitsTest {
         checks.due("bytes made by the constructor: " + bytes, true, bytes < 200_000);
     }
 
-    /** A vehicle is led round and round a ring for about as many calls as there are. */
+    /** A vehicle is led round and round a ring, by about as many calls as there are. */
     private void longTrailsStayKnown() {
         Turnpike t = new Turnpike();
         for (int i = 0; i < 4; i++) {
